@@ -42,6 +42,7 @@ public final class SeamFire {
     private final Reader tape;
     private final Act[] book;
     private final int[] names;
+    private final int[] stack;
     private final boolean[] saysYes;
 
     public SeamFire(int w, int h) {
@@ -59,6 +60,7 @@ public final class SeamFire {
             book[i] = new Act();
         }
         names = new int[NAMES];
+        stack = new int[TEXT];
         saysYes = new boolean[Town.PEOPLE];
     }
 
@@ -385,7 +387,7 @@ public final class SeamFire {
         names[WEEK_NAME] = week;
         names[PEOPLE_NAME] = now.town.people - now.town.howManyWent();
         for (int i = 0; i < act.clauses; i++) {
-            if (act.sort[i] == WHOSE && act.value(i, names) != 0) {
+            if (act.sort[i] == WHOSE && act.value(i, names, stack) != 0) {
                 return act.owner[i];
             }
         }
@@ -643,9 +645,9 @@ public final class SeamFire {
         int clause = act.first(SHUT);
         int let = letNow();
         nameHouse(house, week, gasOf(house, week, false, let));
-        int byLeast = act.value(clause, names);
+        int byLeast = act.value(clause, names, stack);
         names[GAS_NAME] = gasOf(house, week, true, let);
-        return byLeast + act.value(clause, names);
+        return byLeast + act.value(clause, names, stack);
     }
 
     private int worthOf(int house, int week, boolean withGas) {
@@ -654,7 +656,7 @@ public final class SeamFire {
             return now.town.size[house] * 100;
         }
         nameHouse(house, week, withGas ? gasOf(house, week, true, letNow()) : 0);
-        return Math.max(0, act.value(act.first(WORTH), names));
+        return Math.max(0, act.value(act.first(WORTH), names, stack));
     }
 
     /** How many say yes; who does is left in saysYes. */
@@ -679,7 +681,7 @@ public final class SeamFire {
         names[HEARD_NAME] = town.heard[person];
         names[ASK_NAME] = town.ask[person];
         names[KIN_NAME] = town.kin[person];
-        return act.value(act.first(YES), names) != 0;
+        return act.value(act.first(YES), names, stack) != 0;
     }
 
     /** No ask is below 0, so the fewest that must turn, and of these the cheapest, are the least. */
@@ -1387,7 +1389,6 @@ public final class SeamFire {
         final int[] owner = new int[CLAUSES];
         final int[] start = new int[CLAUSES];
         final int[] code = new int[TEXT];
-        final int[] stack = new int[TEXT];
 
         void clear() {
             clauses = 0;
@@ -1425,12 +1426,12 @@ public final class SeamFire {
             return NONE;
         }
 
-        int value(int clause, int[] names) {
+        int value(int clause, int[] names, int[] stack) {
             if (clause < 0 || clause >= clauses) {
                 return 0;
             }
             int top = 0;
-            for (int i = start[clause]; i < length && code[i] != STOP; i++) {
+            for (int i = start[clause]; i < length && code[i] != STOP && top < stack.length; i++) {
                 int item = code[i];
                 if (item < FIRST_NAME) {
                     stack[top] = item;
@@ -1648,14 +1649,6 @@ public final class SeamFire {
             }
         }
 
-        private void expect(int wanted) {
-            if (token == wanted) {
-                advance();
-            } else {
-                refuse(1);
-            }
-        }
-
         private void readClause() {
             sort = token - FIRST_WORD;
             if (sort < SHUT || sort > YES) {
@@ -1677,7 +1670,11 @@ public final class SeamFire {
                     readEither();
                 }
                 act.add(Act.STOP);
-                expect(';');
+                if (token == ';') {
+                    advance();
+                } else {
+                    refuse(1);
+                }
             }
         }
 
@@ -1768,7 +1765,11 @@ public final class SeamFire {
             advance();
             if (one == '(') {
                 readSum(depth + 1);
-                expect(')');
+                if (token == ')') {
+                    advance();
+                } else {
+                    refuse(1);
+                }
             } else if (one == '-') {
                 readOne(depth + 1);
                 act.add(Act.MINUS_ONE);

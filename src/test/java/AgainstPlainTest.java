@@ -2,7 +2,7 @@ import java.util.Random;
 
 /** Long mixed runs of calls, whose answers are those of the plain model. */
 public final class AgainstPlainTest {
-    private static final int RUNS = 400;
+    private static final int RUNS = 150;
     private static final String[] WORDS = {"shut", "worth", "whose", "yes", "or", "and", "not", "gas", "cracks",
         "size", "week", "people", "heard", "ask", "kin", "<", "<=", ">", ">=", "=", "#", "+", "-", "*", "/", "(",
         ")", ";", "0", "1", "7", "9", "10", "9999", "10000", "?", "Shut", "\n", "weeks", "99999999999999999999"};
@@ -29,7 +29,7 @@ public final class AgainstPlainTest {
 
     /** Mostly from a to b, sometimes just beside, seldom far away. */
     private int about(int a, int b) {
-        int die = random.nextInt(40);
+        int die = random.nextInt(90);
         if (die == 0) {
             return a - 1;
         }
@@ -44,6 +44,18 @@ public final class AgainstPlainTest {
 
     private int cell() {
         return about(0, cells - 1);
+    }
+
+    /** Mostly a cell of a kind. */
+    private int cellOf(int kind, int orKind) {
+        int c = cell();
+        for (int i = 0; i < 20 && c >= 0 && c < cells; i++) {
+            if (plain.t.kind[c] == kind || plain.t.kind[c] == orKind) {
+                return c;
+            }
+            c = cell();
+        }
+        return c;
     }
 
     private int week() {
@@ -167,18 +179,55 @@ public final class AgainstPlainTest {
             due("cell(" + c + ", " + kind + ", " + tons + ")", bit(plain.cell(c, kind, tons)),
                     bit(x.cell(c, kind, tons)));
         }
-        int heat = pick(1, 4);
-        int rate = pick(1, 20);
+        int heat = pick(1, 3);
+        int rate = pick(1, 12);
         int draw = pick(0, 8);
         due("rules(" + heat + ", " + rate + ", " + draw + ")", bit(plain.rules(heat, rate, draw)),
                 bit(x.rules(heat, rate, draw)));
     }
 
-    private void run() {
-        if (random.nextInt(8) > 0) {
-            tellSeam();
+    /** A town above a fire, so that the calls that follow have much to tell. */
+    private void furnish() {
+        for (int i = pick(1, 9); i > 0; i--) {
+            int c = cellOf(1, 2);
+            int week = pick(0, 3);
+            due("state(" + c + ", " + week + ")", plain.state(c, week), x.state(c, week));
         }
-        int calls = pick(50, 300);
+        for (int i = pick(1, 14); i > 0; i--) {
+            int c = cell();
+            due("hole(" + c + ")", plain.hole(c), x.hole(c));
+        }
+        for (int i = pick(0, 6); i > 0; i--) {
+            int c = cellOf(3, 3);
+            int cost = pick(0, 30);
+            due("place(" + c + ", " + cost + ")", plain.place(c, cost), x.place(c, cost));
+        }
+        for (int i = pick(1, 5); i > 0; i--) {
+            int c = cell();
+            int cracks = pick(1, 9);
+            int size = pick(1, 9);
+            due("house(" + c + ", " + cracks + ", " + size + ")", plain.house(c, cracks, size),
+                    x.house(c, cracks, size));
+        }
+        for (int i = pick(0, 15); i > 0; i--) {
+            int house = about(0, plain.t.houses.size() - 1);
+            int kin = pick(0, 3);
+            int ask = pick(0, 900);
+            due("person(" + house + ", " + kin + ", " + ask + ")", plain.person(house, kin, ask),
+                    x.person(house, kin, ask));
+        }
+        for (int i = pick(0, 4); i > 0; i--) {
+            tellAct();
+        }
+        due("image()", plain.image(), x.image());
+    }
+
+    private void run() {
+        if (random.nextInt(12) > 0) {
+            tellSeam();
+            furnish();
+        }
+        int calls = pick(30, 250);
         for (int i = 0; i < calls; i++) {
             switch (random.nextInt(8)) {
                 case 0: case 1: seamCall(); break;
@@ -199,12 +248,15 @@ public final class AgainstPlainTest {
         int b = 0;
         switch (random.nextInt(11)) {
             case 0:
+                if (random.nextInt(3) > 0) {
+                    break;
+                }
                 a = about(0, 4);
                 b = a == 1 || a == 2 ? about(1, 999) : about(0, 0);
                 due("cell(" + c + ", " + a + ", " + b + ")", bit(plain.cell(c, a, b)), bit(x.cell(c, a, b)));
                 break;
             case 1:
-                if (random.nextInt(4) == 0) {
+                if (random.nextInt(9) == 0) {
                     a = about(1, 20);
                     b = about(1, 99);
                     int d = about(0, 30);
@@ -220,6 +272,7 @@ public final class AgainstPlainTest {
                 break;
             case 5: case 6:
                 a = random.nextInt(5) == 0 ? about(1, 1000) : about(1, 50);
+                c = cellOf(3, 3);
                 due("pour(" + c + ", " + a + ")", plain.pour(c, a), x.pour(c, a));
                 break;
             case 7:
@@ -246,6 +299,7 @@ public final class AgainstPlainTest {
         int a = 0;
         switch (random.nextInt(7)) {
             case 0: case 1:
+                c = cellOf(1, 2);
                 due("state(" + c + ", " + week + ")", plain.state(c, week), x.state(c, week));
                 break;
             case 2: case 3:
@@ -278,7 +332,7 @@ public final class AgainstPlainTest {
             case 0:
                 a = about(0, Math.min(99, plain.t.clock));
                 // Mostly as one of the states has it, so that some states stay let.
-                boolean burned = random.nextInt(6) == 0 ? random.nextBoolean() : plain.burns(0, a, c, 0) == 1;
+                boolean burned = random.nextInt(20) == 0 ? random.nextBoolean() : plain.burns(0, a, c, 0) == 1;
                 due("read(" + c + ", " + a + ", " + burned + ")", plain.read(c, a, burned), x.read(c, a, burned));
                 break;
             case 1:
@@ -292,11 +346,12 @@ public final class AgainstPlainTest {
                 due("parts(" + week + ")", plain.parts(week), x.parts(week));
                 break;
             case 4:
-                a = about(0, 9999);
+                a = about(0, random.nextBoolean() ? 9999 : 20);
+                c = cellOf(3, 3);
                 due("place(" + c + ", " + a + ")", plain.place(c, a), x.place(c, a));
                 break;
             case 5:
-                a = random.nextBoolean() ? about(0, 99999) : pick(0, 20000);
+                a = random.nextBoolean() ? about(0, 99999) : pick(0, 100);
                 week = about(plain.t.clock, Math.min(99, plain.t.clock + 30));
                 for (int what = 0; what < 3; what++) {
                     due("best(" + a + ", " + week + ", " + what + ")", plain.best(a, week, what),

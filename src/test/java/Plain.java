@@ -101,6 +101,7 @@ final class Plain {
 
     final int w;
     final int h;
+    final int[][] beside;
     Told t = new Told();
     Told kept;
     List<Integer> tape = new ArrayList<>();
@@ -114,6 +115,10 @@ final class Plain {
         t.tons = new int[w * h];
         t.fill = new int[w * h];
         kept = t.copy();
+        beside = new int[w * h][];
+        for (int c = 0; c < w * h; c++) {
+            beside[c] = cellsBeside(c);
+        }
     }
 
     private boolean ok(int v, int a, int b) {
@@ -124,14 +129,18 @@ final class Plain {
         return ok(c, 0, w * h - 1);
     }
 
-    private List<Integer> neighbours(int c) {
+    private int[] neighbours(int c) {
+        return beside[c];
+    }
+
+    private int[] cellsBeside(int c) {
         List<Integer> list = new ArrayList<>();
         for (int o = 0; o < w * h; o++) {
             if (away(c, o) == 1) {
                 list.add(o);
             }
         }
-        return list;
+        return list.stream().mapToInt(Integer::intValue).toArray();
     }
 
     private int away(int a, int b) {
