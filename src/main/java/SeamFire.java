@@ -1117,7 +1117,7 @@ public final class SeamFire {
             seen = Math.max(seen, at + 1);
         }
 
-        /** Which cells have air in a week that was seen; of walls, in the weeks that they stand. */
+        /** Which cells have air in a week that was seen; walls stand in every week that is asked. */
         long air(World world, int inWeek) {
             Grid grid = world.grid;
             long closed = world.ground.fullAt[inWeek] | world.works.cutAt[inWeek] | walled;

@@ -148,6 +148,15 @@ public final class FireTest {
         due.is("burns a second week", 1, x.burns(s, 1, 1, 0));
         due.is("burnt at 3", 2, x.burns(s, 3, 1, 0));
         due.is("air goes over both", 1, x.burns(s, 3, 2, 3));
+        SeamFire y = seam(2, 2, 1, 500);
+        y.cell(0, 1, 10);
+        y.rules(1, 5, 9);
+        int t = y.state(0, 0);
+        y.hole(0);
+        y.hole(1);
+        due.is("its neighbour burns", 1, y.burns(t, 5, 1, 0));
+        due.is("what is burnt stays so", 2, y.burns(t, 5, 0, 0));
+        due.is("and takes no heat", 0, y.burns(t, 5, 0, 2));
     }
 
     private static void airAndCuts() {
@@ -236,6 +245,11 @@ public final class FireTest {
         for (int[] f : wrong) {
             due.is("fed", -1000, x.fed(f[0], f[1], f[2]));
         }
+        int other = x.state(5, 2);
+        x.hole(2);
+        due.is("by another state", 1, x.lost(other, 2));
+        due.is("its own neighbour", 1, x.fed(other, 3, 3));
+        due.is("ahead of it", 0, x.fed(other, 2, 3));
         // Air makes the first cell burn out ahead of the second one's catching: the hole feeds less than none.
         SeamFire y = new SeamFire(2, 2);
         y.cell(0, 1, 10);
@@ -245,6 +259,8 @@ public final class FireTest {
         y.hole(1);
         y.hole(0);
         due.is("less than none", -1, y.fed(t, 9, 1));
+        due.is("the other", 0, y.fed(t, 9, 0));
+        due.is("asked again", -1, y.fed(t, 9, 1));
     }
 
     private static void inTime() {
@@ -304,5 +320,13 @@ public final class FireTest {
         due.is("by one that isn't let", 1, x.inTime(0, 0));
         x.read(1, 0, true);
         due.is("cut at the beginning: none is let", -1, x.inTime(0, -1));
+        SeamFire y = seam(3, 2, 1, 300);
+        y.state(0, 8);
+        y.state(5, 8);
+        y.trench(1, 2, 2, 2);
+        y.weeks(9);
+        y.read(0, 9, false);
+        due.is("as the latest reading lets it", 2, y.inTime(0, -1));
+        due.is("the one that isn't let", 0, y.let(0, 9));
     }
 }

@@ -123,6 +123,10 @@ public final class KnownTest {
         due.is("6: 3 of 6", 6, x.parts(3));
         x.read(6, 0, true);
         due.is("those that are let agree", -1, x.parts(0));
+        SeamFire y = seam();
+        y.state(0, 0);
+        y.state(1, 0);
+        due.is("cell 0 is one too", 0, y.parts(0));
         due.is("week -1", -1, x.parts(-1));
         due.is("week 100", -1, x.parts(100));
         x.read(0, 0, true);

@@ -62,6 +62,12 @@ public final class LawTest {
         due.is("a fault", -1, Due.act(x, "yes 1=1"));
         due.is("the tape is empty then too", 0, x.about(13));
         due.is("how many", 4, x.about(10));
+        due.is("a fault behind a good clause", -1, Due.act(x, "worth 8;whose 4 1=1;worth 1;"));
+        due.is("what was faulty leaves nothing", 4, Due.act(x, "worth 9;"));
+        x.house(0, 0, 1);
+        x.force(4, 0, 99);
+        due.is("worth", 9, x.by(0, 0, 1));
+        due.is("whose", -1, x.whose(0));
     }
 
     private static void actLimit() {
@@ -117,6 +123,16 @@ public final class LawTest {
         isFaulty("shut\r1=1;", 1, 4);
         isFaulty("shut\n1\n=\n1\n;\n", 0, -1);
         isFaulty("shut 1=oil;", 1, 7);
+        for (String word : new String[] {"kina", "kinz", "kinA", "kinZ", "Kin", "akin", "zkin", "ki"}) {
+            isFaulty("yes " + word + "=1;", 1, 4);
+        }
+        isFaulty("yes kin9=1;", 1, 7);
+        isFaulty("yes kin/10=1;", 0, -1);
+        isFaulty("yes kin@=1;", 1, 7);
+        isFaulty("yes kin[=1;", 1, 7);
+        isFaulty("yes kin`=1;", 1, 7);
+        isFaulty("yes kin{=1;", 1, 7);
+        isFaulty("yes 1:=1;", 1, 5);
         isFaulty("shut 1=yes;", 1, 7);
         isFaulty("worth 1=1;", 1, 7);
         isFaulty("worth not 1=1;", 1, 6);
@@ -197,6 +213,9 @@ public final class LawTest {
         Due.act(x, "yes 1=1; ?");
         due.is("1", 1, x.fault(0));
         due.is("at 9", 9, x.fault(1));
+        Due.act(x, "yes 1=1;");
+        due.is("none again", 0, x.fault(0));
+        due.is("no place again", -1, x.fault(1));
         due.is("fault(2)", -1, x.fault(2));
         due.is("fault(-1)", -1, x.fault(-1));
         x.image();
@@ -417,6 +436,8 @@ public final class LawTest {
         x.offer(0, 0, 0);
         x.weeks(1);
         due.is("one went", -1, x.whose(0));
+        x.person(0, 1, 9);
+        due.is("another came", 0, x.whose(0));
         due.is("behind the force", -1, x.whose(51));
         due.is("week -1", -1, x.whose(-1));
         due.is("week 100", -1, x.whose(100));

@@ -26,7 +26,7 @@ public final class SeamTest {
     }
 
     private static void newObject() {
-        int[][] sizes = {{2, 8, 2, 8}, {1, 9, 2, 8}, {0, 3, 2, 3}, {8, -7, 8, 2},
+        int[][] sizes = {{2, 8, 2, 8}, {1, 9, 2, 8}, {0, 3, 2, 3}, {8, -7, 8, 2}, {9, 2, 8, 2},
             {Integer.MIN_VALUE, Integer.MAX_VALUE, 2, 8}, {5, 4, 5, 4}};
         for (int[] s : sizes) {
             SeamFire x = new SeamFire(s[0], s[1]);
@@ -116,6 +116,7 @@ public final class SeamTest {
         due.is("the hole's own cell has air, draw 0", 1, x.burns(s, 0, 0, 3));
         due.is("its neighbour has none", 0, x.burns(s, 0, 1, 3));
         x.weeks(20);
+        due.is("seen ahead of the change", 480, x.burns(s, 20, 0, 1));
         due.yes("rules later", x.rules(2, 30, 0));
         due.is("are the same for all weeks", 470, x.burns(s, 1, 0, 1));
     }
@@ -155,7 +156,9 @@ public final class SeamTest {
         x.weeks(5);
         due.yes("plug", x.plug(0));
         due.is("the other hole is open", 1, x.burns(s, 5, 0, 3));
+        due.is("as asked ahead of the plugging", 440, x.burns(s, 6, 0, 1));
         due.yes("plug the other", x.plug(1));
+        due.is("the week of the plugging has less air", 445, x.burns(s, 6, 0, 1));
         due.is("open in the week ahead", 1, x.burns(s, 4, 0, 3));
         due.is("plugged from the clock's week on", 0, x.burns(s, 5, 0, 3));
         due.no("twice", x.plug(1));
@@ -219,7 +222,9 @@ public final class SeamTest {
         x.pour(1, 19);
         x.pour(3, 20);
         due.is("19 is open", 1, x.burns(s, 2, 0, 3));
+        due.is("as asked ahead of the pouring", 97, x.burns(s, 3, 0, 1));
         x.pour(1, 1);
+        due.is("as asked behind it", 98, x.burns(s, 3, 0, 1));
         due.is("open in the week of the pouring", 1, x.burns(s, 1, 0, 3));
         due.is("full from the next on", 0, x.burns(s, 2, 0, 3));
         for (int i = 3; i < 40; i++) {

@@ -115,7 +115,13 @@ public final class TownTest {
         due.yes("5 in its place", x.hears(0, 5));
         x.weeks(1);
         due.is("500", 1, x.gone(0));
-        due.yes("one that went hears too", x.hears(0, 0));
+        due.yes("one that went hears too", x.hears(0, 9));
+        x.back();
+        x.house(0, 0, 1);
+        x.person(0, 0, 500);
+        x.offer(0, 0, 9);
+        x.weeks(1);
+        due.is("a new one has heard nothing", -1, x.gone(0));
     }
 
     private static void offer() {
@@ -211,6 +217,13 @@ public final class TownTest {
         x.pull(101);
         x.weeks(1);
         due.is("kin of earlier weeks count", 2, x.gone(11));
+        x.person(0, 9, 300);
+        x.person(0, 9, 0);
+        x.person(0, 0, 0);
+        x.pull(300);
+        x.weeks(1);
+        due.is("kin 9", 3, x.gone(12));
+        due.is("how many", 15, x.about(9));
     }
 
     private static void weeks() {

@@ -8,6 +8,8 @@ public final class WallTest {
         bestOfLikes();
         bestByMany();
         bestTimes();
+        bestInBetween();
+        bestAskedAgain();
         bestWrong();
         imageOfTheSeam();
         imageOfTheTown();
@@ -120,6 +122,55 @@ public final class WallTest {
         asks(y, 99999, 1, 2, 10, 1);
     }
 
+    /** Walls that come when heat has grown, and ahead of a state's week. */
+    private static void bestInBetween() {
+        SeamFire x = seam();
+        x.rules(3, 10, 9);
+        x.place(4, 10);
+        x.place(2, 10);
+        x.weeks(2);
+        asks(x, 99999, 2, 0, 0, 1);
+        asks(x, 99999, 3, 3, 20, 1);
+        due.is("without", 3, x.best(0, 3, 2));
+        asks(x, 99999, 30, 3, 20, 1);
+        SeamFire y = new SeamFire(3, 2);
+        y.cell(0, 1, 20);
+        y.cell(1, 1, 500);
+        y.cell(2, 3, 0);
+        y.rules(2, 10, 9);
+        y.hole(2);
+        y.state(0, 3);
+        y.place(2, 5);
+        y.weeks(1);
+        asks(y, 5, 2, 0, 0, 0);
+        asks(y, 5, 5, 1, 5, 1);
+        due.is("without", 2, y.best(4, 5, 2));
+        y.weeks(3);
+        asks(y, 5, 5, 1, 5, 1);
+        y.weeks(1);
+        asks(y, 5, 6, 0, 0, 2);
+    }
+
+    private static void bestAskedAgain() {
+        SeamFire x = seam();
+        x.place(4, 10);
+        x.place(2, 10);
+        asks(x, 50, 5, 3, 20, 1);
+        due.is("a hole feeds 2", 2, x.fed(0, 5, 0));
+        asks(x, 49, 5, 3, 20, 1);
+        asks(x, 19, 5, 1, 10, 2);
+        asks(x, 19, 0, 0, 0, 1);
+        x.state(1, 0);
+        asks(x, 19, 0, 0, 0, 1);
+        asks(x, 50, 5, 3, 20, 1);
+        x.weeks(1);
+        asks(x, 50, 5, 0, 0, 3);
+        x.read(0, 0, false);
+        asks(x, 50, 5, 0, 0, 1);
+        x.back();
+        due.is("no state there", -1, x.best(50, 5, 0));
+    }
+
     private static void bestWrong() {
         SeamFire x = new SeamFire(3, 2);
         x.cell(0, 1, 500);
@@ -189,6 +240,56 @@ public final class WallTest {
         x.weeks(1);
         due.is("the newer image", 2, x.back());
         due.is("its fill", 1, x.fill(2));
+        imageAtTheBeginning();
+    }
+
+    private static void imageAtTheBeginning() {
+        SeamFire x = seam();
+        x.pour(2, 20);
+        x.image();
+        x.cell(0, 4, 0);
+        x.cell(1, 1, 7);
+        x.cell(3, 3, 0);
+        x.cell(4, 1, 3);
+        x.pour(5, 30);
+        x.hole(0);
+        x.trench(3, 0, 1, 1);
+        x.house(0, 1, 1);
+        x.offer(0, 5, 5);
+        x.lost(0, 9);
+        x.weeks(1);
+        due.is("back", 0, x.back());
+        due.is("coal burns", 1, x.burns(0, 0, 0, 0));
+        due.is("its air comes not from a hole", 0, x.burns(0, 0, 0, 3));
+        due.is("tons", 500, x.burns(0, 0, 1, 1));
+        due.is("coal again", 500, x.burns(0, 0, 3, 1));
+        due.is("a room again", 1, x.burns(0, 0, 4, 3));
+        due.is("not full", 1, x.burns(0, 5, 4, 3));
+        due.is("no coal", 0, x.burns(0, 0, 4, 1));
+        due.is("a place", 0, x.place(4, 1));
+        due.is("no place", -1, x.place(3, 1));
+        due.is("lost", 3, x.lost(0, 1));
+        due.is("the image's own sand", 20, x.fill(2));
+        x.house(0, 1, 1);
+        x.person(0, 1, 5);
+        x.weeks(1);
+        due.is("no offer", -1, x.gone(0));
+        x.offer(0, 5, 1);
+        x.image();
+        x.offer(0, 5, 9);
+        x.weeks(1);
+        x.back();
+        x.offer(0, 0, 1);
+        x.image();
+        x.offer(0, 5, 50);
+        x.back();
+        x.weeks(1);
+        due.is("for 0 nobody goes", -1, x.gone(0));
+        x.image();
+        x.offer(0, 5, 60);
+        x.back();
+        x.weeks(1);
+        due.is("the offer was to week 1", -1, x.gone(0));
     }
 
     private static void imageOfTheTown() {
@@ -219,9 +320,14 @@ public final class WallTest {
         x.weeks(1);
         due.is("went", 1, x.gone(0));
         due.is("by a pull of 7", 1, x.gone(1));
+        x.person(0, 1, 215);
+        x.person(0, 2, 200);
+        x.weeks(1);
+        due.is("by no more than 7", -1, x.gone(2));
+        due.is("the offer stands", 2, x.gone(3));
         x.image();
         x.back();
-        due.is("those who went, too", 2, x.about(9));
+        due.is("those who went, too", 3, x.about(9));
     }
 
     private static void imageOfTheLaw() {
