@@ -79,6 +79,7 @@ public final class FireTest {
             due.is("heat in " + m, want[m], x.burns(s, m, 1, 2));
         }
         due.is("without air none", 0, x.burns(s, 9, 3, 2));
+        coolsOneByOne();
         SeamFire y = seam(3, 3, 1, 500);
         y.rules(1, 10, 1);
         int t = y.state(1, 0);
@@ -98,6 +99,28 @@ public final class FireTest {
         due.is("none burns beside it", 0, y.burns(t, 4, 8, 2));
         due.is("3 is at catch", 1, y.burns(t, 5, 3, 0));
         due.is("what comes of two is above it", 4, y.burns(t, 5, 3, 2));
+    }
+
+    /** Cells 0, 2, 4 beside cell 1 have other heats when air ends; each goes on cooling. */
+    private static void coolsOneByOne() {
+        SeamFire x = seam(3, 2, 1, 900);
+        x.rules(9, 10, 1);
+        int s = x.state(1, 0);
+        x.hole(2);
+        x.hole(4);
+        x.weeks(2);
+        x.hole(0);
+        x.weeks(1);
+        x.plug(0);
+        x.plug(1);
+        x.plug(2);
+        int[][] want = {{1, 0, 0, 0}, {3, 2, 1, 0}, {3, 2, 1, 0}};
+        int[] cells = {0, 2, 4};
+        for (int i = 0; i < cells.length; i++) {
+            for (int m = 0; m < 4; m++) {
+                due.is("heat of " + cells[i] + " in " + (3 + m), want[i][m], x.burns(s, 3 + m, cells[i], 2));
+            }
+        }
     }
 
     private static void airThroughRooms() {
@@ -328,5 +351,12 @@ public final class FireTest {
         y.read(0, 9, false);
         due.is("as the latest reading lets it", 2, y.inTime(0, -1));
         due.is("the one that isn't let", 0, y.let(0, 9));
+        SeamFire z = seam(3, 2, 1, 300);
+        z.state(1, 8);
+        z.state(5, 8);
+        z.weeks(9);
+        z.trench(1, 2, 2, 2);
+        z.read(1, 8, false);
+        due.is("the one that is too late isn't let", 2, z.inTime(0, -1));
     }
 }

@@ -8,6 +8,7 @@ public final class KnownTest {
         let();
         span();
         parts();
+        atTheEnd();
         due.end();
     }
 
@@ -104,6 +105,35 @@ public final class KnownTest {
         for (int[] s : wrong) {
             due.is("span", -1, x.span(s[0], s[1], s[2]));
         }
+    }
+
+    /** The clock at 100 is no week: all that is known now ends with week 99. */
+    private static void atTheEnd() {
+        SeamFire x = seam();
+        x.state(0, 90);
+        x.state(1, 90);
+        x.house(0, 2, 1);
+        x.trench(0, 0, 1, 1);
+        x.place(0, 1);
+        for (int i = 0; i < 5; i++) {
+            x.weeks(20);
+        }
+        x.read(0, 99, false);
+        due.is("let", 2, x.let(-1, 100));
+        due.is("let(0)", 1, x.let(0, 100));
+        due.is("span", 1, x.span(1, 99, 100));
+        due.is("parts", 1, x.parts(99));
+        due.is("gas", 6, x.gas(0, 99, true));
+        due.is("in time", 2, x.inTime(0, -1));
+        due.is("by", 0, x.by(0, 99, 0));
+        due.is("vote", 0, x.vote(99, 0));
+        due.is("whose", -1, x.whose(99));
+        due.is("best", -1, x.best(0, 100, 0));
+        due.is("lost", 1, x.lost(1, 99));
+        due.is("fed", -1000, x.fed(0, 99, 0));
+        due.is("image", 100, x.image());
+        due.is("back", 100, x.back());
+        due.is("let again", 2, x.let(-1, 100));
     }
 
     private static void parts() {

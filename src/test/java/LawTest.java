@@ -68,6 +68,13 @@ public final class LawTest {
         x.force(4, 0, 99);
         due.is("worth", 9, x.by(0, 0, 1));
         due.is("whose", -1, x.whose(0));
+        for (int i = 0; i < 4; i++) {
+            due.is("long and faulty", -1, Due.act(x, "worth " + times("1+", 140) + "1;worth 1;"));
+        }
+        due.is("a short one", 5, Due.act(x, times("whose 3 week>4;", 20)));
+        x.force(5, 0, 99);
+        due.is("none of twenty is so", -1, x.whose(4));
+        due.is("all are", 3, x.whose(5));
     }
 
     private static void actLimit() {
@@ -201,6 +208,15 @@ public final class LawTest {
         isFaulty(times("whose 1 1=1;", 20) + "oh", 1, 240);
         isFaulty(times("whose 1 1=1;", 20) + " \n ", 0, -1);
         isFaulty("worth " + times("1+", 146) + "1;", 0, -1);
+        isFaulty(times(";", 300), 1, 0);
+        isFaulty(times(" ", 299) + "x", 1, 299);
+        isFaulty(times(" ", 299) + "<", 1, 299);
+        isFaulty(times(" ", 300), 0, -1);
+        isFaulty("worth " + times("1+", 147), 1, 300);
+        isFaulty("worth " + times("-1", 147), 1, 300);
+        isFaulty("worth " + times("x", 294), 1, 6);
+        isFaulty("worth " + times("0", 294), 1, 300);
+        isFaulty("worth 1" + times("0", 293), 2, 6);
     }
 
     private static void fault() {

@@ -135,6 +135,11 @@ public final class SeamTest {
         due.is("not open ahead of it", 0, x.burns(s, 1, 0, 3));
         due.is("open in the clock's week", 1, x.burns(s, 2, 0, 3));
         due.is("and on", 1, x.burns(s, 99, 0, 3));
+        SeamFire y = seam(2, 2, 1, 500);
+        y.state(0, 0);
+        due.is("asked ahead of the boring", 495, y.burns(0, 1, 0, 1));
+        y.hole(0);
+        due.is("asked again", 490, y.burns(0, 1, 0, 1));
         SeamFire late = seam(2, 2, 1, 500);
         for (int i = 0; i < 9; i++) {
             late.weeks(11);
@@ -250,6 +255,17 @@ public final class SeamTest {
         due.is("a new room", 0, x.fill(0));
         x.pour(0, 20);
         due.is("fill", 20, x.fill(0));
+        x.cell(5, 1, 9);
+        x.cell(3, 1, 9);
+        x.cell(1, 0, 0);
+        x.state(5, 0);
+        x.hole(0);
+        due.is("cell 0 is full from week 1 on", 0, x.burns(0, 1, 3, 3));
+        due.is("not in week 0", 1, x.burns(0, 0, 3, 3));
+        x.cell(0, 4, 0);
+        x.cell(0, 3, 0);
+        due.is("told anew it is open", 1, x.burns(0, 1, 3, 3));
+        due.is("later too", 1, x.burns(0, 2, 3, 3));
     }
 
     private static void trench() {
@@ -292,6 +308,14 @@ public final class SeamTest {
         }
         due.is("the 11th", -1, x.trench(0, 2, 2, 1));
         due.is("how many", 10, x.about(4));
+        SeamFire all = seam(8, 8, 1, 60);
+        all.state(0, 0);
+        for (int y = 0; y < 8; y++) {
+            due.is("a row", y, all.trench(8 * y, 0, 8, 8));
+        }
+        for (int c = 0; c < 64; c++) {
+            due.is("all 64 are cut at once", 0, all.burns(0, 0, c, 1));
+        }
         SeamFire late = seam(2, 2, 1, 60);
         int s = late.state(3, 0);
         for (int i = 0; i < 9; i++) {

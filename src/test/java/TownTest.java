@@ -96,6 +96,11 @@ public final class TownTest {
         }
         due.is("the 61st", -1, x.person(0, 1, 1));
         due.is("how many", 60, x.about(8));
+        x.offer(0, 1, 9);
+        x.weeks(1);
+        due.is("all but one went", 59, x.about(9));
+        due.is("the last of them", 0, x.gone(59));
+        due.is("one votes no", 1, x.vote(0, 1));
     }
 
     private static void hears() {

@@ -10,6 +10,7 @@ public final class WallTest {
         bestTimes();
         bestInBetween();
         bestAskedAgain();
+        bestWithCooling();
         bestWrong();
         imageOfTheSeam();
         imageOfTheTown();
@@ -169,6 +170,57 @@ public final class WallTest {
         asks(x, 50, 5, 0, 0, 1);
         x.back();
         due.is("no state there", -1, x.best(50, 5, 0));
+        SeamFire y = seam();
+        asks(y, 0, 5, 0, 0, 3);
+        y.image();
+        y.plug(0);
+        y.pour(4, 60);
+        asks(y, 0, 5, 0, 0, 1);
+        y.back();
+        asks(y, 0, 5, 0, 0, 3);
+        y.plug(0);
+        asks(y, 0, 5, 0, 0, 1);
+        y.back();
+        due.is("asked of the image", 3, y.best(0, 5, 2));
+        SeamFire z = seam();
+        z.cell(5, 1, 50);
+        z.plug(0);
+        z.state(5, 9);
+        asks(z, 0, 0, 0, 0, 1);
+        z.cell(1, 1, 1);
+        z.hole(0);
+        z.rules(1, 1, 9);
+        z.weeks(1);
+        z.read(0, 0, false);
+        asks(z, 0, 3, 0, 0, 0);
+        z.state(3, 1);
+        due.is("a state told since", 1, z.best(0, 3, 2) > 0 ? 1 : 0);
+        SeamFire v = seam();
+        v.state(3, 0);
+        v.weeks(1);
+        v.read(3, 0, true);
+        due.is("nothing was asked ahead of it", 1, v.best(0, 1, 2));
+    }
+
+    /** Heat that is there at the clock's week goes on cooling by a trial, too. */
+    private static void bestWithCooling() {
+        SeamFire x = new SeamFire(3, 2);
+        for (int c = 0; c < 6; c++) {
+            x.cell(c, 1, 900);
+        }
+        x.cell(0, 1, 60);
+        x.rules(3, 10, 9);
+        x.state(0, 0);
+        x.hole(0);
+        x.hole(3);
+        x.hole(4);
+        x.hole(1);
+        x.weeks(2);
+        x.plug(3);
+        asks(x, 0, 8, 0, 0, 3);
+        due.is("lost", 3, x.lost(0, 8));
+        asks(x, 0, 9, 0, 0, 4);
+        due.is("lost a week later", 4, x.lost(0, 9));
     }
 
     private static void bestWrong() {
