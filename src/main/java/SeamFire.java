@@ -861,6 +861,7 @@ public final class SeamFire {
             draw = other.draw;
         }
 
+        /** Sand that was poured into the cell stays in it, whatever it is told to be now. */
         void tell(int cell, int kindTold, int tonsTold) {
             kind[cell] = kindTold;
             tons[cell] = tonsTold;
@@ -868,14 +869,10 @@ public final class SeamFire {
             coal &= ~bit(cell);
             if (kindTold == ROOM) {
                 rooms |= bit(cell);
-            } else {
-                // Fill is a room's: sand that was poured into it goes with the room.
-                fill[cell] = 0;
             }
             if (tonsTold > 0) {
                 coal |= bit(cell);
             }
-            noteFull(0);
         }
 
         int runSand(int cell, int amount, int week) {

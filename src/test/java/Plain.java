@@ -154,9 +154,6 @@ final class Plain {
         }
         t.kind[c] = kind;
         t.tons[c] = tons;
-        if (kind != 3) {
-            t.fill[c] = 0;
-        }
         return true;
     }
 

@@ -12,6 +12,7 @@ public final class SeamTest {
         pour();
         pourLimits();
         pourAndTelling();
+        sandThatStays();
         trench();
         trenchLimits();
         due.end();
@@ -250,22 +251,44 @@ public final class SeamTest {
         x.cell(0, 3, 0);
         due.is("a room told again as a room", 15, x.fill(0));
         x.cell(0, 1, 7);
-        due.is("coal has no fill", 0, x.fill(0));
+        due.is("told as coal it keeps its sand", 15, x.fill(0));
+        x.cell(0, 0, 0);
+        due.is("as rock", 15, x.fill(0));
+        x.pour(1, 20);
+        due.is("sand runs past what is no room now", 0, x.pour(1, 10));
+        due.is("so no more comes to it", 15, x.fill(0));
         x.cell(0, 3, 0);
-        due.is("a new room", 0, x.fill(0));
-        x.pour(0, 20);
+        due.is("as a room", 15, x.fill(0));
+        due.is("it takes 5 more, the others 70", 905, x.pour(0, 980));
         due.is("fill", 20, x.fill(0));
-        x.cell(5, 1, 9);
+        due.is("a new object has none", 0, new SeamFire(3, 2).fill(0));
+    }
+
+    private static void sandThatStays() {
+        SeamFire x = seam(3, 2, 0, 0);
+        x.cell(0, 3, 0);
+        x.pour(0, 20);
         x.cell(3, 1, 9);
-        x.cell(1, 0, 0);
+        x.cell(5, 1, 9);
         x.state(5, 0);
         x.hole(0);
-        due.is("cell 0 is full from week 1 on", 0, x.burns(0, 1, 3, 3));
-        due.is("not in week 0", 1, x.burns(0, 0, 3, 3));
+        due.is("not full in week 0", 1, x.burns(0, 0, 3, 3));
+        due.is("full from week 1 on", 0, x.burns(0, 1, 3, 3));
         x.cell(0, 4, 0);
+        due.is("water isn't open", 0, x.burns(0, 0, 3, 3));
         x.cell(0, 3, 0);
-        due.is("told anew it is open", 1, x.burns(0, 1, 3, 3));
-        due.is("later too", 1, x.burns(0, 2, 3, 3));
+        due.is("told as a room again: in week 0", 1, x.burns(0, 0, 3, 3));
+        due.is("it is full still", 0, x.burns(0, 1, 3, 3));
+        x.cell(0, 1, 1);
+        x.state(0, 0);
+        due.is("coal with sand burns", 1, x.burns(1, 0, 0, 0));
+        due.is("and is burnt", 2, x.burns(1, 1, 0, 0));
+        due.is("burnt it is open, with its sand", 1, x.burns(1, 1, 3, 3));
+        due.is("which stays", 20, x.fill(0));
+        x.image();
+        x.cell(0, 3, 0);
+        x.back();
+        due.is("behind an image too", 20, x.fill(0));
     }
 
     private static void trench() {
