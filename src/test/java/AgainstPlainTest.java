@@ -11,6 +11,8 @@ public final class AgainstPlainTest {
     private final SeamFire x;
     private final Plain plain;
     private final int cells;
+    /** Some runs stay at clock 0 for long, where cells may be told again behind all that was done. */
+    private final boolean early;
     private final StringBuilder log = new StringBuilder();
 
     private AgainstPlainTest(long seed) {
@@ -20,6 +22,7 @@ public final class AgainstPlainTest {
         x = new SeamFire(w, h);
         plain = new Plain(w, h);
         cells = x.about(1) * x.about(2);
+        early = random.nextInt(4) == 0;
         log.append("new SeamFire(" + w + ", " + h + ")\n");
     }
 
@@ -248,10 +251,11 @@ public final class AgainstPlainTest {
         int b = 0;
         switch (random.nextInt(11)) {
             case 0:
-                if (random.nextInt(3) > 0) {
+                if (!early && random.nextInt(3) > 0) {
                     break;
                 }
-                a = about(0, 4);
+                a = early ? about(1, 3) : about(0, 4);
+                c = early ? cellOf(3, 3) : c;
                 b = a == 1 || a == 2 ? about(1, 999) : about(0, 0);
                 due("cell(" + c + ", " + a + ", " + b + ")", bit(plain.cell(c, a, b)), bit(x.cell(c, a, b)));
                 break;
@@ -276,6 +280,9 @@ public final class AgainstPlainTest {
                 due("pour(" + c + ", " + a + ")", plain.pour(c, a), x.pour(c, a));
                 break;
             case 7:
+                for (int o = 0; early && o < cells; o++) {
+                    due("fill(" + o + ")", plain.fill(o), x.fill(o));
+                }
                 due("fill(" + c + ")", plain.fill(c), x.fill(c));
                 break;
             case 8: case 9:
@@ -286,6 +293,9 @@ public final class AgainstPlainTest {
                         x.trench(c, a, b, e));
                 break;
             default:
+                if (early && random.nextInt(8) > 0) {
+                    break;
+                }
                 a = random.nextInt(3) == 0 ? about(1, 20) : 1;
                 due("weeks(" + a + ")", plain.weeks(a), x.weeks(a));
                 break;
