@@ -37,6 +37,9 @@ final class Due {
     /** Puts a text on an empty tape. */
     static void put(SeamFire x, String text) {
         byte[] bytes = text.getBytes(StandardCharsets.ISO_8859_1);
+        if (bytes.length > 300) {
+            throw new IllegalArgumentException("the test's text is too long for a tape: " + text);
+        }
         x.end(0);
         for (int i = 0; i < bytes.length; i += 20) {
             x.feed(word(bytes, i), word(bytes, i + 4), word(bytes, i + 8), word(bytes, i + 12), word(bytes, i + 16));
