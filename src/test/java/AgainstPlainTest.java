@@ -3,6 +3,8 @@ import java.util.Random;
 /** Long mixed runs of calls, whose answers are those of the plain model. */
 public final class AgainstPlainTest {
     private static final int RUNS = 150;
+    /** An object is used for 512 calls at most, and one step of a run makes up to a hundred. */
+    private static final int LAST_STEP = 390;
     private static final String[] WORDS = {"shut", "worth", "whose", "yes", "or", "and", "not", "gas", "cracks",
         "size", "week", "people", "heard", "ask", "kin", "<", "<=", ">", ">=", "=", "#", "+", "-", "*", "/", "(",
         ")", ";", "0", "1", "7", "9", "10", "9999", "10000", "?", "Shut", "\n", "weeks", "99999999999999999999"};
@@ -14,6 +16,7 @@ public final class AgainstPlainTest {
     /** Some runs stay at clock 0 for long, where cells may be told again behind all that was done. */
     private final boolean early;
     private final StringBuilder log = new StringBuilder();
+    private int used;
 
     private AgainstPlainTest(long seed) {
         random = new Random(seed);
@@ -66,6 +69,7 @@ public final class AgainstPlainTest {
     }
 
     private void due(String call, long want, long got) {
+        used++;
         log.append(call).append(" -> ").append(got).append('\n');
         if (want != got) {
             System.out.println(log);
@@ -231,7 +235,7 @@ public final class AgainstPlainTest {
             furnish();
         }
         int calls = pick(30, 250);
-        for (int i = 0; i < calls; i++) {
+        for (int i = 0; i < calls && used < LAST_STEP; i++) {
             switch (random.nextInt(8)) {
                 case 0: case 1: seamCall(); break;
                 case 2: case 3: fireCall(); break;

@@ -64,8 +64,7 @@ final class Edge {
         for (World world : worlds) {
             String told = call + " in " + world;
             asksTwice(world.w, world.h, world::make, told, want, answer);
-            same(others(told), looks.computeIfAbsent(world, o -> Look.at(o.w, o.h, o::make)),
-                    Look.at(world.w, world.h, behind(world::make, answer)));
+            same(others(told), lookAt(world), Look.at(world.w, world.h, behind(world::make, answer)));
         }
     }
 
@@ -85,6 +84,18 @@ final class Edge {
         before.on(x);
         is(call, want, answer.of(x));
         is(call + " again", want, answer.of(x));
+    }
+
+    /** The call asks alone: in every world all else answers as without it. */
+    void asksAlone(String call, Answer answer) {
+        for (World world : World.values()) {
+            same(others(call + " in " + world), lookAt(world),
+                    Look.at(world.w, world.h, behind(world::make, answer)));
+        }
+    }
+
+    private long[] lookAt(World world) {
+        return looks.computeIfAbsent(world, o -> Look.at(o.w, o.h, o::make));
     }
 
     /** All else answers as without the call, whatever it answers itself. */

@@ -130,7 +130,7 @@ public final class LanguageTest {
     }
 
     private static void use(SeamFire x) {
-        for (int i = 0; i < 20; i++) {
+        for (int i = 0; i < 18; i++) {
             x.end(0);
             // "worth gas / 2 ; yes gas>1 ; shut gas>9; whose 1 1=1;" in words of four bytes
             x.feed(0x776f7274, 0x68206761, 0x73202f20, 0x32203b20, 0x79657320);

@@ -8,13 +8,16 @@ public final class PromisesTest {
     }
 
     private static final List<Tests> ALL = List.of(
-            Promise01::tests, Promise02::tests, Promise03::tests, Promise04::tests, Promise05::tests, Promise06::tests,
-            Promise07::tests, Promise08::tests, Promise09::tests, Promise10::tests, Promise11::tests, Promise12::tests,
-            Promise13::tests, Promise14::tests, Promise15::tests, Promise16::tests, Promise17::tests, Promise18::tests,
-            Promise19::tests, Promise20::tests, Promise21::tests, Promise22::tests, Promise23::tests, Promise24::tests,
-            Promise25::tests, Promise26::tests, Promise27::tests, Promise28::tests, Promise29::tests, Promise30::tests,
-            Promise31::tests, Promise32::tests, Promise33::tests, Promise34::tests, Promise35::tests, Promise36::tests,
-            Promise37::tests, Promise38::tests);
+            Promise01NewObject::tests, Promise02Cell::tests, Promise03Rules::tests, Promise04Hole::tests,
+            Promise05Plug::tests, Promise06Pour::tests, Promise07Fill::tests, Promise08Trench::tests,
+            Promise09State::tests, Promise10Burns::tests, Promise11Lost::tests, Promise12Fed::tests,
+            Promise13InTime::tests, Promise14Read::tests, Promise15Let::tests, Promise16Span::tests,
+            Promise17Parts::tests, Promise18House::tests, Promise19Gas::tests, Promise20Person::tests,
+            Promise21Hears::tests, Promise22Offer::tests, Promise23Pull::tests, Promise24Gone::tests,
+            Promise25Weeks::tests, Promise26Feed::tests, Promise27End::tests, Promise28Act::tests,
+            Promise29Fault::tests, Promise30Force::tests, Promise31By::tests, Promise32Whose::tests,
+            Promise33Vote::tests, Promise34Place::tests, Promise35Best::tests, Promise36Image::tests,
+            Promise37Back::tests, Promise38About::tests);
 
     private PromisesTest() {
     }
