@@ -32,15 +32,15 @@ public final class LanguageTest {
     private static void words(String source) {
         String code = source.replaceAll("(?s)/\\*.*?\\*/", "").replaceAll("//.*", "");
         String[] none = {"\\bthrow\\b", "\\bthrows\\b", "\\btry\\b", "\\bcatch\\b", "\\bsynchronized\\b",
-            "\\bassert\\b", "->", "::", "\\bpackage\\b", "\\bimport\\b", "Exact\\b", "\\bstatic\\s*\\{", "hashCode",
-            "toString", "\\bnative\\b", "\\bvolatile\\b", "\\bprotected\\b", "\\bvar\\b"};
+            "\\bassert\\b", "->", "::", "\\bpackage\\b", "\\bimport (?!java\\.util\\.(ArrayList|List|Arrays|Iterator);)",
+            "Exact\\b", "\\bstatic\\s*\\{", "hashCode", "\\bnative\\b", "\\bvolatile\\b", "\\bprotected\\b",
+            "\\bvar\\b"};
         for (String word : none) {
             Matcher found = Pattern.compile(word).matcher(code);
             due.no(word, found.find());
         }
-        Matcher library = Pattern.compile("\\b(Math|Integer|Long|System|String|Arrays)\\.(\\w+)").matcher(code);
-        Set<String> allowed = Set.of("Math.max", "Math.min", "Integer.bitCount", "Long.bitCount",
-                "System.arraycopy");
+        Matcher library = Pattern.compile("\\b(System|String|Arrays)\\.(\\w+)").matcher(code);
+        Set<String> allowed = Set.of("System.arraycopy", "Arrays.copyOf", "Arrays.copyOfRange", "Arrays.fill");
         while (library.find()) {
             due.yes(library.group(), allowed.contains(library.group()));
         }
@@ -66,7 +66,7 @@ public final class LanguageTest {
                 due.yes(lines[i].trim() + " is short", end - i <= 60);
             }
         }
-        due.yes("methods were seen", methods > 90);
+        due.yes("methods were seen", methods > FACE.size());
     }
 
     private static void face() {

@@ -16,6 +16,7 @@ final class Promise08Trench {
         atTheEnd(edge);
         aboveNinetyNine(edge);
         ten(edge);
+        wholeSeam(edge);
     }
 
     private static boolean fits(int w, int h, int c, int direction, int n) {
@@ -160,5 +161,18 @@ final class Promise08Trench {
         edge.is("the 11th isn't", 50, x.burns(0, 0, 10, 1));
         edge.refused("trench(10, 0, 1, 1)", -1, o -> o.trench(10, 0, 1, 1), World.FULL);
         edge.refused("trench(0, 0, 4, 8)", -1, o -> o.trench(0, 0, 4, 8), World.FULL);
+    }
+
+    private static void wholeSeam(Edge edge) {
+        edge.sentence(8, "n CELLS (all in THE SEAM): the whole of it in one WEEK");
+        SeamFire x = Edge.seam(8, 8, 1, 50);
+        x.state(63, 0);
+        for (int y = 0; y < 8; y++) {
+            edge.is("a row", y, x.trench(8 * y, 0, 8, 8));
+        }
+        for (int c = 0; c < 64; c++) {
+            edge.is("tons of " + c, 0, x.burns(0, 0, c, 1));
+        }
+        edge.is("none BURNS", 0, x.lost(0, 0));
     }
 }
